@@ -38,7 +38,7 @@ public final class SwornVane {
         if (code < 32 || code > 126) {
             return OUTSIDE;
         }
-        return page.add((char) code) ? page.length : FULL;
+        return page.add(code) ? page.length : FULL;
     }
 
     public int blank() {
@@ -329,7 +329,7 @@ public final class SwornVane {
             h = 31 * h + fitting();
         }
         for (int i = 0; i < page.length; i++) {
-            h = 31 * h + page.letters[i];
+            h = 31 * h + page.codes[i];
         }
         for (int what = 0; what <= 6; what++) {
             h = 31 * h + count(what);
@@ -457,35 +457,35 @@ public final class SwornVane {
         return 1103515245 * seed + 12345 & 0x7fffffff;
     }
 
-    /** THE PAGE. */
+    /** THE PAGE: its letters by their codes. */
     private static final class Page {
-        final char[] letters = new char[MOST_LETTERS];
+        final int[] codes = new int[MOST_LETTERS];
         int length;
 
-        boolean add(char letter) {
-            if (length >= letters.length) {
+        boolean add(int code) {
+            if (length >= codes.length) {
                 return false;
             }
-            letters[length] = letter;
+            codes[length] = code;
             length++;
             return true;
         }
 
         int firstFault() {
             for (int i = 0; i < length; i++) {
-                if (i >= MOST_HOURS || !isDayLetter(letters[i])) {
+                if (i >= MOST_HOURS || !isOfDay(codes[i])) {
                     return i;
                 }
             }
             return length;
         }
 
-        static boolean isDayLetter(char letter) {
-            return letter == '?' || windOf(letter) != NONE;
+        static boolean isOfDay(int code) {
+            return code == '?' || windOf(code) != NONE;
         }
 
-        static int windOf(char letter) {
-            switch (letter) {
+        static int windOf(int code) {
+            switch (code) {
                 case 'n':
                     return 0;
                 case 'e':
@@ -527,7 +527,7 @@ public final class SwornVane {
         void begin(Page page) {
             hours = page.length < MOST_HOURS ? page.length : MOST_HOURS;
             for (int h = 0; h < hours; h++) {
-                winds[h] = Page.windOf(page.letters[h]);
+                winds[h] = Page.windOf(page.codes[h]);
             }
             vanes = 0;
             clearSeen();

@@ -168,7 +168,9 @@ public final class SwornVanePromises {
         refused(x, x.digest(), "day() over a DAY", x.day(), STATE);
         x.blank();
         spell(x, "?");
+        due("fitting() ahead of another DAY", x.fitting(), 4);
         due("day()", x.day(), 1);
+        due("blows(0) of another DAY", x.blows(0), 15);
         due("count(0)", x.count(0), 1);
         due("count(2)", x.count(2), 0);
         due("count(3)", x.count(3), 0);
@@ -688,6 +690,7 @@ public final class SwornVanePromises {
         x.oil(0, 0);
         due("vane(4, 2, 1)", x.vane(4, 2, 1), 1);
         x.see(1, 1, 1);
+        due("fitting() behind image()", x.fitting(), 0);
         due("restore()", x.restore(), 1);
         due("digest() behind restore()", x.digest(), before);
         due("about(1, 0) behind restore()", x.about(1, 0), UNKNOWN);
@@ -766,5 +769,10 @@ public final class SwornVanePromises {
         }
         due("digest()", x.digest(), h);
         due("digest() again", x.digest(), h);
+        h = 823;
+        for (long it : new long[] {15, 4, 1, 0, 0, 0, 0, 1, 0}) {
+            h = 31 * h + it;
+        }
+        due("digest() of one hour", onDay("?").digest(), h);
     }
 }
