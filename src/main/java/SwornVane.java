@@ -602,27 +602,13 @@ public final class SwornVane {
 
         /** Where a VANE that pointed at one QUARTER points when it has turned. */
         static int turned(int kind, int twist, int at, int wind) {
-            switch (kind) {
-                case RUSTY:
-                    return nudged(at, wind);
-                case LEE:
-                    return wind == twist ? at : wind;
-                case OILED:
-                    return wind + twist & 3;
-                case COURT:
-                    return nudged(at, wind + twist & 3);
-                default:
-                    return wind;
+            if (kind == LEE) {
+                return wind == twist ? at : wind;
             }
-        }
-
-        /** One QUARTER at most towards the goal; to the right, if it lies behind. */
-        private static int nudged(int at, int goal) {
-            int off = goal - at & 3;
-            if (off == 0) {
-                return at;
-            }
-            return off == 3 ? at + 3 & 3 : at + 1 & 3;
+            int goal = kind == OILED || kind == COURT ? wind + twist & 3 : wind;
+            boolean isSlow = kind == RUSTY || kind == COURT;
+            // one QUARTER takes a slow one to its goal, unless that lies behind it
+            return isSlow && (goal - at & 3) == 2 ? at + 1 & 3 : goal;
         }
 
         int startPose() {
@@ -784,7 +770,7 @@ public final class SwornVane {
         /** The best VANE to ask for times MOST_HOURS, and the HOUR. */
         int bestPlace() {
             int best = 0;
-            int least = Integer.MAX_VALUE;
+            int least = all + 1;
             for (int v = 0; v < hill.vanes; v++) {
                 for (int h = 0; h < hill.hours; h++) {
                     int now = worst(v, h);
