@@ -433,6 +433,8 @@ public final class SwornVaneEdges {
         edge("fewest at worst", "on ?", "vane 1 0 0", "vane 2 1 3", "see 0 0 1", "ask 0 = 1", "ask 2 = 1");
         edge("one is FITTING: all are alike", "on nn", "vane 1 0 0", "vane 0 0 0", "ask 0 = 0", "ask 1 = 0",
                 "ask 2 = 1");
+        edge("one is FITTING: the least VANE and HOUR, though it was SEEN", "on nn", "vane 0 0 0", "vane 0 0 0",
+                "see 0 0 0", "ask 0 = 0", "ask 1 = 0", "ask 2 = 1");
         edge("none, if none are FITTING", "on n", "vane 0 0 0", "see 0 0 1", "ask 0 = NONE", "ask 1 = NONE",
                 "ask 2 = NONE", "ask 3 = OUTSIDE");
         edge("it had best be SEEN, though 10 are told already", "on ??", "vane 0 0 0", "10* see 0 0 1", "ask 0 = 0",
@@ -487,6 +489,9 @@ public final class SwornVaneEdges {
         edge("in all HOURS: in those behind it, too", "on ??", "vane 2 2 1", "vane 1 0 1", "vane 2 0 2", "see 0 1 2",
                 "see 1 1 1", "fitting = 3", "blows 0 = {0,1,2}", "points 2 0 = {0,1}", "proof 0 0 = 1",
                 "proof 0 1 = {2}");
+        edge("in all HOURS: in those behind it, whatever others do then", "on ???", "vane 1 1 2", "vane 4 3 1",
+                "vane 2 1 0", "vane 4 2 2", "see 2 1 3", "see 3 2 2", "fitting = 5", "proof 0 0 = 1",
+                "proof 0 1 = {0}");
         edge("for the first HOUR of six and for the last", "on ??????", "vane 3 0 0", "proof 0 1 = {0}",
                 "proof 5 1 = {0}");
         edge("if it were SEEN besides, though 10 are told already", "on ??", "vane 0 0 0", "10* see 0 0 1",
@@ -689,8 +694,8 @@ public final class SwornVaneEdges {
                 "restore = 0", "about 0 0 = UNKNOWN", "count 2 = 0", "count 3 = 0", "ask 0 = STATE",
                 "4* vane 1 0 0", "about 3 3 = 0", "vane 0 0 0 = FULL");
         edge("it goes on from there, though all was told of what came since", "on n?", "vane 0 0 0", "image",
-                "wind 0 2", "fitting = 4", "points 0 0 = {2}", "restore", "points 0 0 = {0}", "see 0 1 1", "fitting = 1",
-                "restore", "fitting = 4");
+                "wind 0 2", "fitting = 4", "points 0 0 = {2}", "restore", "points 0 0 = {0}", "see 0 1 1",
+                "fitting = 1", "restore", "fitting = 4");
         edge("again and again", "on n", "vane 3 0 0", "image = 1", "oil 0 1", "restore = 1", "about 0 2 = 0",
                 "oil 0 2", "restore = 1", "about 0 2 = 0", "restore = 1");
         edge("THE PAGE goes on", "on n", "image", "page ab", "restore", "count 4 = 2", "fault = 0", "blank = 2");
@@ -731,6 +736,14 @@ public final class SwornVaneEdges {
                         4, 3, 3, 0, 3, 0, 1, 1, 1, 2,
                         2, 1, 2, 1, 0, 1, 0, 3, 2, 8,
                         2, 8, 1, 126, 2, 1, 2, 1, 1, 1, 1));
+        edge("of all there can be: four VANES, six HOURS, ten SEEN, eight letters, 30 asked", "on wwwwww",
+                "4* vane 0 3 0", "10* see 3 0 3", "30* ask 0", "8* letter 126", "digest = " + digestOf(
+                        0, 3, 0, 0, 0, 1, 2, 3, 8, 8, 8, 8, 8, 8,
+                        0, 3, 0, 0, 0, 1, 2, 3, 8, 8, 8, 8, 8, 8,
+                        0, 3, 0, 0, 0, 1, 2, 3, 8, 8, 8, 8, 8, 8,
+                        0, 3, 0, 10, 0, 1, 2, 3, 8, 8, 8, 8, 8, 8,
+                        8, 8, 8, 8, 8, 8, 1,
+                        126, 126, 126, 126, 126, 126, 126, 126, 6, 6, 4, 10, 8, 1, 30));
         edge("it changes nothing and is not counted", "on n?", "vane 0 0 0", "digest", "digest", "count 6 = 0",
                 "fitting = 4");
     }

@@ -5,8 +5,8 @@
 public final class SwornVaneRefusals {
     private static final int NOT_REFUSED = 0;
 
-    private static final int[] NUMBERS = {Integer.MIN_VALUE, Integer.MIN_VALUE + 1, -102, -2, -1, 0, 1, 2, 3, 4, 5, 6, 7,
-        9, 10, 13, 14, 31, 32, 40, 41, 126, 127, Integer.MAX_VALUE};
+    private static final int[] NUMBERS = {Integer.MIN_VALUE, Integer.MIN_VALUE + 1, -102, -2, -1, 0, 1, 2, 3, 4, 5, 6,
+        7, 9, 10, 13, 14, 31, 32, 40, 41, 126, 127, Integer.MAX_VALUE};
 
     private static final String[] CALLS = {"blank", "fault", "day", "forget", "fitting", "image", "restore", "letter",
         "blows", "ask", "count", "wind", "about", "as", "oil", "points", "proof", "sorts", "vane", "see", "oiling",
@@ -135,8 +135,8 @@ public final class SwornVaneRefusals {
 
         @Override
         public String toString() {
-            return "\"" + day + "\" with " + vanes + " vanes, " + seen + " seen, " + inquiries + " asked, page \"" + page
-                    + "\"" + (isKept ? ", image" : "");
+            return "\"" + day + "\" with " + vanes + " vanes, " + seen + " seen, " + inquiries + " asked, page \""
+                    + page + "\"" + (isKept ? ", image" : "");
         }
 
         SwornVane made() {
@@ -171,7 +171,8 @@ public final class SwornVaneRefusals {
                 case "day": return first(false, false, !page.matches("[nesw?]{1,6}"), false);
                 case "wind": return first(!isHour(n[0]), !in(n[1], -1, 3), false, false);
                 case "vane":
-                    return first(false, !in(n[0], 0, 4) || !isQuarter(n[1]) || !isQuarter(n[2]), day.isEmpty(), vanes == 4);
+                    return first(false, !in(n[0], 0, 4) || !isQuarter(n[1]) || !isQuarter(n[2]), day.isEmpty(),
+                            vanes == 4);
                 case "about": return first(!isVane(n[0]), !in(n[1], 0, 3) && !in(n[1], 10, 13), false, false);
                 case "as": return first(!isVane(n[0]), !in(n[1], 0, 4), false, false);
                 case "oil": return first(!isVane(n[0]), !isQuarter(n[1]), false, false);
