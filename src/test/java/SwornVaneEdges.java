@@ -455,6 +455,8 @@ public final class SwornVaneEdges {
         edge("none also if none are FITTING, even for a known WIND", "on n", "vane 0 0 0", "see 0 0 1",
                 "proof 0 0 = NONE", "proof 0 1 = NONE");
         edge("none, if no VANES prove it", "on ?", "4* vane 1 0 0", "proof 0 0 = NONE", "proof 0 1 = NONE");
+        edge("none, if no VANES prove it: of six HOURS that are not known", "on ??????", "vane 1 3 3",
+                "proof 5 0 = NONE", "proof 0 1 = NONE", "proof 3 1 = NONE");
         // three of four WINDS are told by one RUSTY, but two of them are alike to it
         edge("whichever of those that are FITTING it is", "on ?", "vane 1 0 0", "proof 0 0 = NONE", "see 0 0 0",
                 "proof 0 0 = 0", "forget", "wind 0 1", "proof 0 0 = 0");
@@ -481,6 +483,9 @@ public final class SwornVaneEdges {
                 "vane 1 0 0", "vane 1 2 0", "proof 1 0 = 2", "proof 1 1 = {0,1}");
         edge("which WINDS are alike, by the known ones ahead", "on n?", "vane 2 0 0", "proof 1 0 = 1",
                 "proof 1 1 = {0}");
+        // by 2 in hour 0 the second LEE stays at 1, so only by 0 it is at 0 then; had it been at 0, by 2 as well
+        edge("which WINDS are alike, by those that fit from START on", "on ??", "vane 2 0 0", "vane 2 1 2", "see 1 1 0",
+                "blows 1 = {0,2}", "proof 1 0 = 1", "proof 1 1 = {0}");
         edge("what is not known in its HOUR stays so behind it", "on ?nnnnn", "vane 1 1 0", "proof 0 0 = NONE",
                 "wind 5 NONE", "proof 5 0 = NONE");
         edge("in all HOURS: in those ahead of it, too", "on ??", "vane 2 0 0", "proof 1 0 = NONE", "vane 2 1 1",
